@@ -712,8 +712,6 @@ public final class TalkNet {
             grants++;
             holder = member;
             since = now;
-            revokedAt = NEVER;
-            passedAt = NEVER;
             rulesOfGrant.copyFrom(rules);
             party.tell(GRANTED, member, claims[member].number, grants);
             party.tell(GATE, member, grants, member);

@@ -2,7 +2,7 @@ import java.util.StringJoiner;
 
 /** Compares answers with what is due, counts those that differ, and writes out what an object tells. */
 final class Check {
-    private static final String[] KINDS = {"?", "REQUEST", "RELEASE", "GRANTED", "QUEUED", "DENIED", "REVOKED",
+    static final String[] KINDS = {"?", "REQUEST", "RELEASE", "GRANTED", "QUEUED", "DENIED", "REVOKED",
         "ENDED", "TALKER", "PASSED", "GATE", "UNIT"};
 
     private int wrong;
@@ -32,8 +32,12 @@ final class Check {
         same("all after " + what, all(x), before);
     }
 
+    boolean hasWrong() {
+        return wrong != 0;
+    }
+
     void end() {
-        if (wrong != 0) {
+        if (hasWrong()) {
             System.out.println(wrong + " answers are not as due");
             System.exit(1);
         }
@@ -49,7 +53,7 @@ final class Check {
         return all.toString();
     }
 
-    /** The row after the first message was carried, which then holds only what that sent. */
+    /** The row after a call that found it empty. */
     static String sentBy(TalkNet x, Runnable call) {
         dropAll(x);
         call.run();

@@ -4,6 +4,8 @@ import java.util.Random;
 /** Long runs of calls, the same each time, on TalkNet and on PlainNet: after each call both tell the same. */
 public final class ModelTest {
     private static final int RUNS = 400;
+    // Behind the others: runs of one full group that seldom ticks, so that 4 wait and many are denied.
+    private static final int CROWDED_RUNS = 200;
     private static final int CALLS = 512;
 
     private final Random random;
@@ -14,18 +16,20 @@ public final class ModelTest {
     private final int groups;
     private final int members;
     private final int carrying;
+    private final boolean crowded;
 
     private ModelTest(Check check, int seed) {
         this.check = check;
         random = new Random(seed);
-        groups = 1 + random.nextInt(3);
-        members = 2 + random.nextInt(5);
-        carrying = 1 + random.nextInt(6);
+        crowded = seed >= RUNS;
+        groups = crowded ? 1 : 1 + random.nextInt(3);
+        members = crowded ? 6 : 2 + random.nextInt(5);
+        carrying = crowded ? 12 : 1 + random.nextInt(6);
     }
 
     public static void main(String[] args) {
         Check check = new Check();
-        for (int seed = 0; seed < RUNS; seed++) {
+        for (int seed = 0; seed < RUNS + CROWDED_RUNS; seed++) {
             ModelTest run = new ModelTest(check, seed);
             for (int call = 0; call < CALLS; call++) {
                 check.part("run " + seed + ", call " + call);
@@ -49,6 +53,9 @@ public final class ModelTest {
         int dice = random.nextInt(20 + 2 * carrying);
         if (dice >= 20) {
             return carrying(random.nextInt(12));
+        }
+        if (crowded && dice >= 13 && random.nextInt(8) > 0) {
+            dice = 5 + random.nextInt(6);
         }
         switch (dice) {
             case 0: return rules(g);

@@ -11,6 +11,7 @@ public final class ServerTest {
         older();
         equal();
         equalAfterDenial();
+        denialOfTheGreatest();
         greaterOfHolder();
         greaterOfWaiting();
         fullRow();
@@ -147,14 +148,50 @@ public final class ServerTest {
         x.press(0, 5, false);
         x.twice(x.messages() - 1);
         check.same("a new one waits", Check.waiting(x, 0), "2 3 4 5");
-        x.leave(0, 5);
-        x.member(0, 5, 1);
-        Check.dropAll(x);
+    }
+
+    /** A talker, four that wait, and member 5, whose request 1 was denied; nothing is on its way. */
+    private static TalkNet withDenied() {
+        TalkNet x = Check.withTalker(0, 6);
+        for (int member = 1; member < 6; member++) {
+            x.press(0, member, false);
+        }
+        x.run(200);
+        return x;
+    }
+
+    private static void denialOfTheGreatest() {
+        check.part("whether the greatest number was denied");
+        TalkNet x = withDenied();
         x.press(0, 5, false);
         x.release(0, 5);
         x.carry(1);
         x.carry(0);
-        check.same("a RELEASE's number was not denied", x.messages(), 0);
+        check.same("a greater RELEASE's number was not", x.messages(), 0);
+
+        TalkNet y = withDenied();
+        y.press(0, 5, false);
+        y.twice(0);
+        y.leave(0, 5);
+        y.member(0, 5, 3);
+        y.leave(0, 1);
+        y.carry(0);
+        check.same("it still was when its member left and came back", Check.row(y),
+            "DENIED 0/5 2 0 0; DENIED 0/5 2 0 0");
+        check.same("waiting", Check.waiting(y, 0), "2 3 4");
+
+        TalkNet z = withDenied();
+        z.press(0, 5, false);
+        z.leave(0, 1);
+        z.twice(0);
+        z.carry(0);
+        check.same("a greater REQUEST's was not, when it waits", Check.row(z), "QUEUED 0/5 2 3 0; QUEUED 0/5 2 3 0");
+        Check.dropAll(z);
+        z.again(0, 5);
+        z.release(0, 5);
+        z.carry(1);
+        z.carry(0);
+        check.same("nor when it was released", z.messages(), 0);
     }
 
     private static void greaterOfHolder() {
@@ -282,6 +319,12 @@ public final class ServerTest {
         x.press(0, 3, false);
         x.run(200);
         check.same("between the priorities that were heard", Check.waiting(x, 0), "2 3 1");
+        x.again(0, 1);
+        x.run(200);
+        x.member(0, 4, 4);
+        x.press(0, 4, false);
+        x.run(200);
+        check.same("first heard, not heard again", Check.waiting(x, 0), "2 3 4 1");
 
         TalkNet y = Check.withMembers(0, 2);
         y.rules(0, true, 50, 20, 5);
@@ -291,6 +334,25 @@ public final class ServerTest {
         y.press(0, 1, false);
         y.run(200);
         check.same("the holder's as it was when heard", y.server(0, 3), 0);
+        y.release(0, 1);
+        y.run(200);
+        y.member(0, 0, 7);
+        y.member(0, 1, 4);
+        y.press(0, 1, false);
+        y.run(200);
+        check.same("and though it is greater now", y.server(0, 3), 1);
+
+        TalkNet z = Check.withMembers(0, 3);
+        z.rules(0, true, 50, 20, 5);
+        z.press(0, 0, false);
+        z.press(0, 1, false);
+        z.run(200);
+        z.member(0, 1, 0);
+        z.release(0, 0);
+        z.run(200);
+        z.press(0, 2, false);
+        z.run(200);
+        check.same("heard, not granted: a holder that waited", z.server(0, 1) + " " + z.server(0, 3), "1 0");
     }
 
     /** What a second member's REQUEST sends, and whether the holder is revoked by it. */

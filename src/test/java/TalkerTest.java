@@ -201,6 +201,18 @@ public final class TalkerTest {
         check.same("two denials", Check.row(y), "DENIED 0/5 1 0 0; DENIED 0/5 1 0 0");
         y.run(200);
         check.same("none", y.about(0, 5, 2), 0);
+
+        TalkNet z = Check.withTalker(0, 6);
+        for (int member = 1; member < 5; member++) {
+            z.press(0, member, false);
+        }
+        z.run(200);
+        check.same("queued", Check.about(z, 0, 4, 2, 4), "2 1 3");
+        z.release(0, 4);
+        z.press(0, 5, false);
+        z.press(0, 4, false);
+        z.run(200);
+        check.same("denied, and the place that it was told stays", Check.about(z, 0, 4, 2, 4), "0 2 3");
     }
 
     private static void revokedAndEndedCome() {
